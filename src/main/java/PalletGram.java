@@ -395,8 +395,14 @@ public final class PalletGram {
         return (set >> number & 1) != 0;
     }
 
+    /** The lowest holder, or customs, in a set. */
     private static int lowestOf(int set) {
-        return set == 0 ? NONE : Integer.numberOfTrailingZeros(set);
+        for (int number = 0; number < OWERS; number++) {
+            if (isIn(set, number)) {
+                return number;
+            }
+        }
+        return NONE;
     }
 
     /** The chains of all pallets, entry after entry in rows of numbers. */
@@ -529,9 +535,10 @@ public final class PalletGram {
 
         /** The proof made of an entry's numbers, as they are on the paper, and the proof kept ahead. */
         private int proofMade(int pallet, int entry) {
-            int proof = entry == 0 ? FIRST_PROOF : proof(pallet, entry - 1);
+            int row = row(pallet, entry);
+            int proof = entry == 0 ? FIRST_PROOF : proofs[row - 1];
             for (int which = 0; which < NUMBERS; which++) {
-                proof = PROOF_FACTOR * proof + number(pallet, entry, which);
+                proof = PROOF_FACTOR * proof + numbers[row * NUMBERS + which];
             }
             return proof;
         }

@@ -25,6 +25,7 @@ public final class PromisesTest {
         broken();
         isSound();
         isSoundRoundAbout();
+        isSoundOfManyJoined();
         pallet();
         entry();
         entryKinds();
@@ -140,7 +141,9 @@ public final class PromisesTest {
         Check.due("take", gram.load(0, 3, -99), 0);
         dueEntry(gram, 0, 2, 2, 2, 3, 99, 0, 0, 1 << 2);
         Check.due("load one", gram.load(0, 5, 1), 1);
+        dueEntry(gram, 0, 3, 1, 2, 5, 1, 0, 0, 1 << 2);
         Check.due("take one", gram.load(0, 5, -1), 0);
+        dueEntry(gram, 0, 4, 2, 2, 5, 1, 0, 0, 1 << 2);
         for (int wrong : new int[] {MIN, -100, 0, 100, MAX}) {
             Check.noArgument("load of " + wrong, gram, () -> gram.load(0, 0, wrong));
             Check.noPlace("load of good 6 and " + wrong, gram, () -> gram.load(0, 6, wrong));
@@ -562,6 +565,25 @@ public final class PromisesTest {
         gram.repair(3, 0);
         gram.spoil(2, 0, 2);
         Check.due("not over GONE", gram.isSound(0), true);
+    }
+
+    private static void isSoundOfManyJoined() {
+        PalletGram gram = new PalletGram();
+        for (int number = 0; number < 4; number++) {
+            gram.make(0);
+            gram.load(number, number, 1);
+        }
+        for (int number = 1; number < 4; number++) {
+            gram.join(number, 0);
+        }
+        for (int number = 1; number < 4; number++) {
+            gram.spoil(number, 1, 5);
+            Check.due("one of three that were joined is spoiled", gram.isSound(0), false);
+            Check.due("its papers tell so", gram.contentsAnew(0, number), 5);
+            Check.noState("load it", gram, () -> gram.load(0, 0, 1));
+            gram.spoil(number, 1, 1);
+            Check.due("it is mended", gram.isSound(0), true);
+        }
     }
 
     // ---- promise 13
