@@ -1,28 +1,59 @@
-import java.util.ArrayList;
 import java.util.List;
 
 /** Counts what is not as due, and ends a test with exit code 1 if there was any. */
 final class Check {
+    /** A sentence of the document that most calls have a test of. */
+    static final String NAMED_FIRST =
+            "If several exceptions apply, the one that is named first in the throws clause is thrown.";
+
     interface Call {
         long answer();
     }
 
+    interface CallWith {
+        long answer(int number);
+    }
+
     private static int checks = 0;
     private static int wrong = 0;
+    private static String about = "";
 
     private Check() {
     }
 
-    static void due(String what, long got, long want) {
-        checks++;
-        if (got != want) {
-            wrong++;
-            System.out.println(what + " answered " + got + ", due is " + want);
+    /** Runs the test of one sentence of the document; what goes wrong in it is told with the sentence. */
+    static void sentence(int promise, String sentence, Runnable test) {
+        about = "promise " + promise + ", \"" + sentence + "\": ";
+        int ahead = checks;
+        try {
+            test.run();
+        } catch (RuntimeException | AssertionError e) {
+            fail("the test ended by " + e);
         }
+        if (checks == ahead) {
+            fail("nothing was checked");
+        }
+        about = "";
+    }
+
+    static void due(String what, long got, long want) {
+        same(what, Long.toString(got), Long.toString(want));
     }
 
     static void due(String what, boolean got, boolean want) {
-        due(what, got ? 1 : 0, want ? 1 : 0);
+        same(what, Boolean.toString(got), Boolean.toString(want));
+    }
+
+    static void same(String what, String got, String want) {
+        checks++;
+        if (!got.equals(want)) {
+            fail(what + " answered " + got + ", due is " + want);
+        }
+    }
+
+    private static void fail(String text) {
+        wrong++;
+        System.out.println(about + text);
     }
 
     /** The name of the exception that a call throws, or its answer. */
@@ -34,76 +65,47 @@ final class Check {
         }
     }
 
-    static void same(String what, String got, String want) {
-        checks++;
-        if (!got.equals(want)) {
-            wrong++;
-            System.out.println(what + " answered " + got + ", due is " + want);
-        }
-    }
-
-    static void noPlace(String what, PalletGram gram, Call call) {
+    static void noPlace(String what, Gram gram, Call call) {
         refused(what, gram, call, "IndexOutOfBoundsException");
     }
 
-    static void noArgument(String what, PalletGram gram, Call call) {
+    static void noArgument(String what, Gram gram, Call call) {
         refused(what, gram, call, "IllegalArgumentException");
     }
 
-    static void noState(String what, PalletGram gram, Call call) {
+    static void noState(String what, Gram gram, Call call) {
         refused(what, gram, call, "IllegalStateException");
     }
 
-    private static void refused(String what, PalletGram gram, Call call, String exception) {
-        List<Long> ahead = allAnswers(gram);
+    /** That a call throws IndexOutOfBoundsException with each of the numbers. */
+    static void noPlaces(String what, Gram gram, CallWith call, int... numbers) {
+        for (int number : numbers) {
+            noPlace(what + " " + number, gram, () -> call.answer(number));
+        }
+    }
+
+    static void noArguments(String what, Gram gram, CallWith call, int... numbers) {
+        for (int number : numbers) {
+            noArgument(what + " " + number, gram, () -> call.answer(number));
+        }
+    }
+
+    private static void refused(String what, Gram gram, Call call, String exception) {
+        List<Long> ahead = State.of(gram);
         same(what, outcome(call), exception);
-        due(what + " changes something", !ahead.equals(allAnswers(gram)), false);
+        due(what + ": everything is as it was", State.of(gram).equals(ahead), true);
     }
 
-    /** Everything that an object can be asked, as a row of numbers; it is left as it was. */
-    static List<Long> allAnswers(PalletGram gram) {
-        List<Long> row = new ArrayList<>();
-        for (int pallet = 0; pallet < 14 && isThere(gram, pallet); pallet++) {
-            addPallet(row, gram, pallet);
+    /** That an entry has its six numbers, the proof made of them and the one ahead, and its copies, as a set. */
+    static void dueEntry(Gram gram, int pallet, int entry, int... numbers) {
+        String which = "entry " + entry + " of " + pallet;
+        int proof = entry == 0 ? 17 : gram.entry(pallet, entry - 1, 6);
+        for (int what = 0; what < 6; what++) {
+            due(which + ", number " + what, gram.entry(pallet, entry, what), numbers[what]);
+            proof = 31 * proof + numbers[what];
         }
-        for (int holder = 0; holder <= 6; holder++) {
-            row.add((long) gram.owed(holder));
-        }
-        for (int truck = 4; truck <= 5; truck++) {
-            row.add((long) gram.mismatch(truck));
-            for (int good = 0; good < 6; good++) {
-                int declared = gram.declare(truck, good, 0);
-                gram.declare(truck, good, declared);
-                row.add((long) declared);
-            }
-        }
-        for (int kind = 0; kind < 10; kind++) {
-            int fee = gram.fee(kind, 0);
-            gram.fee(kind, fee);
-            row.add((long) fee);
-        }
-        return row;
-    }
-
-    private static boolean isThere(PalletGram gram, int pallet) {
-        return !outcome(() -> gram.pallet(pallet, 0)).equals("IndexOutOfBoundsException");
-    }
-
-    private static void addPallet(List<Long> row, PalletGram gram, int pallet) {
-        for (int what = 0; what <= 4; what++) {
-            row.add((long) gram.pallet(pallet, what));
-        }
-        for (int good = 0; good < 6; good++) {
-            row.add((long) gram.contents(pallet, good));
-            row.add((long) gram.contentsAnew(pallet, good));
-        }
-        row.add((long) gram.broken(pallet));
-        row.add(gram.isSound(pallet) ? 1L : 0L);
-        for (int entry = 0; entry < gram.pallet(pallet, 1); entry++) {
-            for (int what = 0; what <= 7; what++) {
-                row.add((long) gram.entry(pallet, entry, what));
-            }
-        }
+        due("the proof of " + which, gram.entry(pallet, entry, 6), proof);
+        due("the copies of " + which, gram.entry(pallet, entry, 7), numbers[6]);
     }
 
     static void end() {

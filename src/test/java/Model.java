@@ -35,6 +35,10 @@ final class Model {
     private final int[] fees = {1, 2, 3, 4, 5, 6, 7, 8, 9, 10};
     private final int[] owed = new int[7];
 
+    int pallets() {
+        return pallets.size();
+    }
+
     long make(int dock) {
         place(0 <= dock && dock <= 3);
         state(pallets.size() < 14);
