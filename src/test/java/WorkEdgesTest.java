@@ -527,7 +527,8 @@ public final class WorkEdgesTest {
 
     private static void moves() {
         Check.sentence(6, "`holder`: 0 to 5", WorkEdgesTest::moveToEachHolder);
-        Check.sentence(6, "Throws `IndexOutOfBoundsException` as told, of pallet and holder", WorkEdgesTest::moveNowhere);
+        Check.sentence(6, "Throws `IndexOutOfBoundsException` as told, of pallet and holder",
+                WorkEdgesTest::moveNowhere);
         Check.sentence(6, WORKABLE, WorkEdgesTest::moveUnworkable);
         Check.sentence(6, "and has room for the entries", WorkEdgesTest::moveToTheEnd);
         Check.sentence(6, "it is at a holder of the same sort", WorkEdgesTest::moveToSameSort);
